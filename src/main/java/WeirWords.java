@@ -747,45 +747,56 @@ public final class WeirWords {
         }
 
         private boolean readCells(River river) {
-            while (river.cells < River.FEWEST_CELLS || isAt('c')) {
-                if (river.cells == River.MOST_CELLS) {
-                    return faulty(NO_ROOM);
-                }
-                if (!passes('c')) {
+            for (int i = 0; i < River.MOST_CELLS && (i < River.FEWEST_CELLS || isAt('c')); i++) {
+                if (!readCell(river)) {
                     return false;
                 }
-                int v = readNumber(0, River.MOST_SPEED);
-                if (v == FAULTY || !passes(';')) {
-                    return false;
-                }
-                river.speeds[river.cells] = v;
-                river.cells++;
             }
+            return !isAt('c') || faulty(NO_ROOM);
+        }
+
+        private boolean readCell(River river) {
+            if (!passes('c')) {
+                return false;
+            }
+            int v = readNumber(0, River.MOST_SPEED);
+            if (v == FAULTY || !passes(';')) {
+                return false;
+            }
+            river.speeds[river.cells] = v;
+            river.cells++;
             return true;
         }
 
         private boolean readWords(River river) {
-            while (at < length) {
-                int kind = Kinds.byLetter(bytes[at]);
-                if (kind == Kinds.UNKNOWN) {
-                    return faulty(MISPLACED);
-                }
-                if (river.words == River.MOST_WORDS) {
-                    return faulty(NO_ROOM);
-                }
-                at++;
-                int size = readNumber(1, River.MOST_SIZE);
-                if (size == FAULTY || !passes(',')) {
+            for (int i = 0; i < River.MOST_WORDS && at < length; i++) {
+                if (!readWord(river)) {
                     return false;
                 }
-                int cell = readNumber(0, river.cells - 1);
-                if (cell == FAULTY || !passes(';')) {
-                    return false;
-                }
-                river.kinds[river.words] = kind;
-                river.said[river.words] = River.packed(size, cell);
-                river.words++;
             }
+            if (at >= length) {
+                return true;
+            }
+            return faulty(Kinds.byLetter(bytes[at]) == Kinds.UNKNOWN ? MISPLACED : NO_ROOM);
+        }
+
+        private boolean readWord(River river) {
+            int kind = Kinds.byLetter(bytes[at]);
+            if (kind == Kinds.UNKNOWN) {
+                return faulty(MISPLACED);
+            }
+            at++;
+            int size = readNumber(1, River.MOST_SIZE);
+            if (size == FAULTY || !passes(',')) {
+                return false;
+            }
+            int cell = readNumber(0, river.cells - 1);
+            if (cell == FAULTY || !passes(';')) {
+                return false;
+            }
+            river.kinds[river.words] = kind;
+            river.said[river.words] = River.packed(size, cell);
+            river.words++;
             return true;
         }
 

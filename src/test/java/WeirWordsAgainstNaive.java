@@ -12,7 +12,7 @@ public final class WeirWordsAgainstNaive {
     };
 
     public static void main(String[] args) throws Exception {
-        int runs = args.length > 0 ? Integer.parseInt(args[0]) : 1500;
+        int runs = args.length > 0 ? Integer.parseInt(args[0]) : 4000;
         long seed = args.length > 1 ? Long.parseLong(args[1]) : 1;
         List<Method> calls = new ArrayList<>();
         for (Method m : WeirWords.class.getDeclaredMethods()) {

@@ -261,6 +261,8 @@ public final class WeirWordsPromises {
         faulty("r999,", 1, 1);
         faulty("r5;", 2, 1);
         faulty("r5 ,", 2, 1);
+        faulty(four, 0, 1);
+        faulty("," + four, 0, 1);
         faulty("r5,;", 3, 1);
         faulty("r5,11;", 3, 2);
         faulty("r5,100;", 3, 1);
@@ -321,6 +323,21 @@ public final class WeirWordsPromises {
         is("rows stay", x.drop(0), 3);
         is("images stay", x.restore(0), 1);
         is("as the image kept it", x.count(1), 6);
+        x.minutes(7);
+        x.say(1, 30, 0);
+        x.calm(9, 0);
+        is("river()", read(x, "r0,0;c0;c0;c0;c0;s8,0;"), 4);
+        is("minute 0 yet", x.count(3), 0);
+        is("none of the words before", x.quarrel(0), 8);
+        is("none of the words before", x.quarrel(9), 8);
+        is("none of the words before", x.kept(), 1);
+        is("none of the words before", x.cell(0, 2), 1);
+        is("none of the words before", x.share(0, 7), 7);
+        is("none of the words before", x.calm(1, 1), 8);
+        is("none of the words before", x.swift(2, 0), 2);
+        is("none of the words before", x.drawn(1, 1, 0), 8);
+        is("none of the words before", x.kind(1), BAD);
+        is("none of the cells before", x.cell(4, 0), BAD);
     }
 
     private static void fault() {
@@ -373,7 +390,28 @@ public final class WeirWordsPromises {
         is("count(3)", x.count(3), 6);
         overTheEdge();
         upTheRiver();
+        rainByFours();
         theLastMinute();
+    }
+
+    private static void rainByFours() {
+        // Froth in a cell of SPEED 2 goes one cell by a minute without rain, two by one with rain.
+        WeirWords x = with("r9,10;c2;c2;c2;c2;c2;c2;c2;c2;c2;c2;c2;c2;f9,0;");
+        int[] cells = {2, 3, 4, 6, 8, 9, 10};
+        for (int i = 0; i < cells.length; i++) {
+            is("foretold, behind " + (i + 1), x.ahead(0, i + 1, 0), cells[i]);
+        }
+        is("gone behind 8", x.over(0), 8);
+        fill(x, 0, cells);
+        is("told", x.fits(0, 0, 0, 7, 2), 1 << 9);
+        for (int i = 0; i < cells.length; i++) {
+            is("rain by minutes", x.cell(0, 1), (9 >> i % 4 & 1) == 1 ? 3 : 2);
+            x.minutes(1);
+            where(x, 0, 9, cells[i]);
+            if (i + 1 < cells.length) {
+                is("foretold from minute " + (i + 1), x.ahead(0, 1, 0), cells[i + 1]);
+            }
+        }
     }
 
     private static void overTheEdge() {
@@ -577,6 +615,17 @@ public final class WeirWordsPromises {
         is("nothing changes", x.count(8), 0);
         x.minutes(2);
         is("gone now", x.ahead(1, 0, 0), NONE);
+        WeirWords y = with("r0,0;c1;c1;c1;c1;c1;c1;c1;c1;c1;c1;c1;c1;e20,11;");
+        int[] even = {11, 9, 8, 6, 5, 3, 2, 0, 0};
+        for (int d = 0; d < even.length; d++) {
+            is("an eel from minute 0, behind " + d, y.ahead(0, d, 0), even[d]);
+        }
+        y.minutes(1);
+        y.say(0, 20, 11);
+        int[] odd = {11, 10, 8, 7, 5, 4, 2, 1, 0};
+        for (int d = 0; d < odd.length; d++) {
+            is("an eel from minute 1, behind " + d, y.ahead(0, d, 0), odd[d]);
+        }
         areBad(x.ahead(-1, 0, 0), x.ahead(5, 0, 0), x.ahead(0, -1, 0), x.ahead(0, 61, 0), x.ahead(0, 0, -1),
             x.ahead(0, 0, 2), new WeirWords().ahead(0, 0, 0));
     }
@@ -631,6 +680,13 @@ public final class WeirWordsPromises {
         is("behind 30", x.calm(30, 0), 0);
         is("behind 30", x.calm(30, 1), 10);
         is("nothing changes", x.cell(0, 0), 1);
+        y.minutes(1);
+        y.speed(3, 0);
+        // 10 is in cell 1 and 15 in cell 3, that is still now.
+        is("from now on", y.calm(2, 1), 15 + 5);
+        is("from now on", y.calm(2, 0), 0);
+        y.say(1, 8, 1);
+        is("from now on", y.calm(2, 1), 5 + 4);
         areBad(x.calm(0, 0), x.calm(31, 0), x.calm(1, -1), x.calm(1, 2));
         is("no river, BAD too", new WeirWords().calm(0, 0), STATE);
         is("no words", with("r0,0;c1;c1;c1;c1;").calm(1, 0), 0);
@@ -658,6 +714,15 @@ public final class WeirWordsPromises {
         is("an eel stays", with("r0,10;c3;c3;c3;c3;s1,0;e1,3;").swift(30, 1), NONE);
         is("a shout dies away", with("r0,10;c0;c0;c0;c0;h30,0;").swift(30, 0), 0);
         is("a shout must go", with("r0,10;c0;c0;c0;c0;h31,1;").swift(30, 1), 2);
+        WeirWords y = with("r0,10;c0;c0;c0;c0;s1,0;s1,1;s1,2;s1,3;m2,0;");
+        is("a salmon stays", y.swift(30, 0), NONE);
+        y = with("r0,10;c0;c0;c0;c0;s1,0;s1,1;s1,2;s1,3;");
+        is("all", y.swift(2, 0), 4);
+        is("all", y.swift(2, 1), 15);
+        y.speed(3, 1);
+        is("from now on", y.swift(2, 1), 7);
+        y.say(2, 1, 3);
+        is("from now on", y.swift(2, 1), 3);
     }
 
     private static void stir() {
@@ -673,6 +738,13 @@ public final class WeirWordsPromises {
         is("nothing changes", x.cell(2, 0), 0);
         x.minutes(3);
         is("gone now", x.stir(2, 1, 1), 0);
+        // Rain in minute 3 alone, in which the stick is in cell 3.
+        WeirWords y = with("r8,10;c1;c1;c1;c1;c1;c1;c1;s1,0;");
+        y.minutes(3);
+        is("by 3 to 6, and beyond", y.stir(0, 3, 2), 2);
+        is("by 3 to 5, 6, and beyond", y.stir(0, 3, 3), 1);
+        is("cell 4 is left out", y.stir(0, 4, 3), 0);
+        is("by 3 to 5, and beyond", y.stir(0, 5, 2), 2);
         areBad(x.stir(-1, 0, 1), x.stir(4, 0, 1), x.stir(0, -1, 1), x.stir(0, 5, 1), x.stir(0, 0, 0),
             x.stir(0, 0, 31), new WeirWords().stir(0, 0, 1));
     }
@@ -694,6 +766,11 @@ public final class WeirWordsPromises {
         is("of 4 two are over", x.share(2, 4), 1 + 1);
         is("of 4 two are over", x.share(3, 4), 1);
         is("of 4 two are over", x.share(4, 4), 0);
+        WeirWords ones = with("r0,0;c0;c0;c0;c0;s1,0;s1,1;s1,2;");
+        is("of 5 two are over", ones.share(0, 5), 2);
+        is("of 5 two are over", ones.share(1, 5), 2);
+        is("of 5 two are over", ones.share(2, 5), 1);
+        is("all of it", with("r0,0;c0;c0;c0;c0;s1,0;").share(0, 999), 999);
         areBad(x.share(-1, 0), x.share(5, 0), x.share(0, -1), x.share(0, 1000), new WeirWords().share(0, 0));
         WeirWords y = with("r0,0;c3;c3;c3;c3;h1,0;");
         y.minutes(1);
@@ -724,6 +801,20 @@ public final class WeirWordsPromises {
         fill(x, 1, 2, 2);
         is("a salmon's edge", x.fits(2, 1, 0, 2, 3), 19);
         is("a salmon or an eel", x.fits(2, 1, 0, 2, 0), 16 + 32);
+        fill(x, 3, 4);
+        is("by rain alone", x.fits(2, 3, 0, 1, 1), 0);
+        is("by rain alone", inMinute5().fits(0, 3, 0, 1, 2), 0xCCCC);
+        is("sizes up to 60", with("r0,0;c0;c0;c0;c0;s1,0;h60,0;").fits(0, 0, 0, 1, 3), NULL);
+        WeirWords dying = with("r0,10;c0;c0;c0;c0;h60,2;");
+        fill(dying, 0, 2, 2, 2, 2, 2, 2, 2, 2, 2, 2, 2, 2);
+        is("the most", dying.fits(0, 0, 0, 12, 3), 60 - 12);
+        is("the least", dying.fits(0, 0, 0, 12, 4), 13);
+        WeirWords eel = with("r0,10;c0;c0;c0;c0;c0;c0;c0;c0;c0;c0;c0;c0;e60,11;");
+        fill(eel, 0, 9, 8, 6, 5, 3, 2, 0, 0);
+        is("an eel from minute 0", eel.fits(0, 0, 0, 8, 0), 32);
+        eel.minutes(1);
+        is("an eel from minute 1", eel.fits(0, 0, 1, 7, 0), 32);
+        is("an eel from minute 1", eel.fits(0, 0, 0, 7, 0), 0);
         areBad(x.fits(-1, 0, 0, 1, 0), x.fits(3, 0, 0, 1, 0), x.fits(0, -1, 0, 1, 0), x.fits(0, 8, 0, 1, 0),
             x.fits(0, 0, 0, 0, 0), x.fits(0, 0, 0, 13, 0), x.fits(0, 0, 0, 1, -1), x.fits(0, 0, 0, 1, 5),
             x.fits(0, 0, -1, 0, 0), new WeirWords().fits(0, 0, 0, 1, 0));
@@ -739,6 +830,15 @@ public final class WeirWordsPromises {
         is("gone, ahead of missing", x.fits(1, 7, 0, 1, 0), STATE);
         is("BAD ahead of gone", x.fits(1, 8, 0, 1, 0), BAD);
         is("nothing changes", x.word(0, 0), 3);
+    }
+
+    /** A stick in cell 2 of SPEED 1, that by row 3 comes to cell 4: with rain now. */
+    private static WeirWords inMinute5() {
+        WeirWords x = with("r0,10;c1;c1;c1;c1;c1;s9,2;");
+        x.minutes(5);
+        x.say(0, 9, 2);
+        fill(x, 3, 4);
+        return x;
     }
 
     private static void chance() {
@@ -804,6 +904,12 @@ public final class WeirWordsPromises {
         is("once yet", y.drawn(4, 1, 1), 1);
         is("said anew again", y.drawn(5, 1, 0), 11);
         is("twice", y.drawn(5, 1, 1), 2);
+        // RAIN of X decides: by the seed 1 X is 16807, 7 by 16, so that minute 0 has rain, whatever RAIN said.
+        WeirWords z = with("r0,0;c1;c1;c1;c1;s40,0;s40,2;");
+        is("with rain now", z.drawn(1, 1, 0), 20);
+        z.rain(15);
+        // By the seed 2 X is 33614, 14 by 16: minute 0 has none.
+        is("no rain now", z.drawn(1, 2, 0), 20 + 40);
         is("no words", with("r0,0;c1;c1;c1;c1;").drawn(60, 999999, 0), 0);
         is("no words", with("r0,0;c1;c1;c1;c1;").drawn(60, 999999, 1), 0);
         areBad(x.drawn(-1, 1, 0), x.drawn(61, 1, 0), x.drawn(0, 0, 0), x.drawn(0, 1000000, 0), x.drawn(0, 1, -1),
