@@ -117,7 +117,17 @@ final class EdgesOfAsks {
         }
         Due.is("told again", x.trace(5), 20);
         Due.is("no river", new WeirWords().trace(0), Due.NONE);
+        Due.sentence("THE TRACE as it begins (the first 16): no ask leaves more than six");
+        for (int word = 0; word < 5; word++) {
+            for (int what = 0; what <= 1; what++) {
+                x.ask(word, what);
+                Due.is("the seventh", x.trace(6), Due.NONE);
+                Due.is("the sixteenth", x.trace(15), Due.NONE);
+                Due.is("the seventeenth", x.trace(16), Due.NONE);
+            }
+        }
         Due.sentence("THE TRACE is empty ahead of it.");
+        isAsked(x, 2, 0, -22, 12, 11, 10, 24, 21, 20);
         isAsked(x, 1, 1, 4, 21, 20);
         for (int i = 2; i < 16; i++) {
             Due.is("trace(" + i + ")", x.trace(i), Due.NONE);

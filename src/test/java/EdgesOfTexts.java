@@ -10,6 +10,7 @@ final class EdgesOfTexts {
 
     static void all() {
         aNewObject();
+        theLastCall();
         theTape();
         tokens();
         theLaw();
@@ -61,6 +62,16 @@ final class EdgesOfTexts {
         Due.is("fault()", x.fault(), 0);
         Due.is("status()", x.status(), 0);
         Due.is("trace(0)", x.trace(0), Due.NONE);
+    }
+
+    private static void theLastCall() {
+        Due.sentence("An object is used for at most 512 calls after it has been made");
+        WeirWords x = Due.with(Due.MIXED);
+        int calls = Due.MIXED.length() + 1;
+        for (; calls < 511; calls++) {
+            Due.is("minutes(1)", x.minutes(1) & 2, calls == Due.MIXED.length() + 1 ? 0 : 2);
+        }
+        Due.is("the 512th", x.count(3), 511 - Due.MIXED.length() - 1);
     }
 
     private static void theTape() {
