@@ -594,7 +594,7 @@ public final class WeirWords {
         return product;
     }
 
-    // b is 1 or more, so that the answer is, too; two ints need no more than 46 divisions.
+    // Two ints need no more than 46 divisions.
     private static int commonDivisor(int a, int b) {
         int rest = a;
         int divisor = b;
@@ -603,7 +603,7 @@ public final class WeirWords {
             divisor = rest;
             rest = next;
         }
-        return divisor;
+        return Math.max(1, divisor);
     }
 
     static final class Rows {
@@ -679,10 +679,18 @@ public final class WeirWords {
     static final class Kinds {
         static final int WORD = 0, STICK = 1, SHOUT = 2, FROTH = 3, SALMON = 4, EEL = 5;
         static final int UNKNOWN = -1;
-        private static final int[] ABOVE = {WORD, WORD, STICK, STICK, WORD, SALMON};
 
         static boolean isOne(int kind, int of) {
-            return of == WORD || of == kind || of == ABOVE[kind];
+            switch (of) {
+                case WORD:
+                    return true;
+                case STICK:
+                    return kind == STICK || kind == SHOUT || kind == FROTH;
+                case SALMON:
+                    return kind == SALMON || kind == EEL;
+                default:
+                    return kind == of;
+            }
         }
 
         static int byLetter(int letter) {
